@@ -1,0 +1,73 @@
+/** What the tests share: comparing answers, typing a text and reading the program's text. */
+final class Check {
+    private static int wrong = 0;
+
+    private Check() {
+    }
+
+    static void due(String call, long want, long got) {
+        if (got != want) {
+            wrong++;
+            System.out.println(call + " answered " + got + ", due is " + want);
+        }
+    }
+
+    static void dueText(String what, String want, String got) {
+        if (!want.equals(got)) {
+            wrong++;
+            System.out.println(what + " is " + got + ", due is " + want);
+        }
+    }
+
+    static void type(CallMigrator x, String text) {
+        x.clearText();
+        for (int i = 0; i < text.length(); i++) {
+            due("append of byte " + i + " of " + text, i + 1, x.append(text.charAt(i)));
+        }
+    }
+
+    static int parse(CallMigrator x, String text) {
+        type(x, text);
+        return x.parse();
+    }
+
+    static void dueSyntaxError(CallMigrator x, String text, int position) {
+        long before = x.digest();
+        type(x, text);
+        long typed = x.digest();
+        due("parse() of " + text, -10 - position, x.parse());
+        due("digest() after the syntax error in " + text, typed, x.digest());
+        if (text.isEmpty()) {
+            due("digest() of an empty text", typed, before);
+        }
+    }
+
+    static void dueProgram(CallMigrator x, String want) {
+        dueText("the program", want, textOf(x));
+    }
+
+    static String textOf(CallMigrator x) {
+        StringBuilder text = new StringBuilder();
+        int length = x.textByte(-1);
+        for (int i = 0; i < length; i++) {
+            text.append((char) x.textByte(i));
+        }
+        return text.toString();
+    }
+
+    /** The numbers of sites left for the reasons 1 to 7, written one behind the other. */
+    static void dueLeft(CallMigrator x, String want) {
+        StringBuilder got = new StringBuilder();
+        for (int reason = 1; reason <= 7; reason++) {
+            got.append(x.left(reason));
+        }
+        dueText("left(1) to left(7)", want, got.toString());
+    }
+
+    static void finish() {
+        if (wrong != 0) {
+            System.out.println(wrong + " answers are not as due");
+            System.exit(1);
+        }
+    }
+}
