@@ -109,7 +109,7 @@ public final class CallMigrator {
     }
 
     public int setSource(int oldFunction, int position, int source) {
-        if (!isOld(oldFunction) || !isEntryPosition(position) || !within(source, 0, MOST_SOURCE)) {
+        if (!isOld(oldFunction) || !isEntryPosition(position) || !isSource(source)) {
             return refuse(OUT_OF_RANGE);
         }
         return changeEntry(oldFunction, position, source, 0);
@@ -324,6 +324,10 @@ public final class CallMigrator {
         return within(position, 0, POSITIONS - 1);
     }
 
+    private static boolean isSource(int number) {
+        return within(number, 0, MOST_SOURCE);
+    }
+
     private static boolean within(int number, int lowest, int highest) {
         return number >= lowest && number <= highest;
     }
@@ -504,9 +508,9 @@ public final class CallMigrator {
             size = newSize;
         }
 
-        private static void replaceIn(int[] row, int end, int rest, int[] part, int node, int length) {
-            System.arraycopy(row, end, row, node + length, rest);
-            System.arraycopy(part, 0, row, node, length);
+        private static void replaceIn(int[] row, int end, int rest, int[] part, int at, int length) {
+            System.arraycopy(row, end, row, at + length, rest);
+            System.arraycopy(part, 0, row, at, length);
         }
 
         int countSites() {
@@ -535,7 +539,7 @@ public final class CallMigrator {
         int adaptersAllowed = 0;
         final Mappings mappings = new Mappings();
         final Program program = new Program();
-        /** The sites that the latest migration left for each reason, and ahead of them the replaced. */
+        /** The sites that the latest migration replaced, then those it left for each reason. */
         final int[] outcomes = new int[LAST_REASON + 1];
 
         State() {
@@ -898,8 +902,8 @@ public final class CallMigrator {
     private static final class Mover {
         private final Program replacement = new Program();
         /** Where the arguments of the site at hand begin, and behind them the end of the site. */
-        private final int[] starts = new int[POSITIONS + 1];
-        private final boolean[] effects = new boolean[POSITIONS];
+        private final int[] starts = new int[MOST_OLD_ARITY + 1];
+        private final boolean[] effects = new boolean[MOST_OLD_ARITY];
 
         /** Answers how many sites were replaced. */
         int moveSites(State state) {
@@ -960,7 +964,7 @@ public final class CallMigrator {
         }
 
         private void findArguments(State state, int site) {
-            int arguments = Math.min(state.program.argumentCount[site], POSITIONS);
+            int arguments = Math.min(state.program.argumentCount[site], MOST_OLD_ARITY);
             starts[0] = site + 1;
             for (int i = 0; i < arguments; i++) {
                 starts[i + 1] = state.program.endOf(starts[i]);
@@ -971,7 +975,7 @@ public final class CallMigrator {
         private int effectReason(State state, int function, int arguments) {
             boolean isRepeated = false;
             boolean isLost = false;
-            for (int source = 0; source < arguments && source < POSITIONS; source++) {
+            for (int source = 0; source < arguments && source < MOST_OLD_ARITY; source++) {
                 int uses = countUses(state, function, source);
                 isRepeated = isRepeated || effects[source] && uses > 1;
                 isLost = isLost || effects[source] && uses == 0;
@@ -1001,7 +1005,7 @@ public final class CallMigrator {
             int greatest = NONE;
             for (int position = 0; position < used; position++) {
                 int source = state.mappings.sourceAt(function, position);
-                if (within(source, 0, POSITIONS - 1) && effects[source]) {
+                if (isSource(source) && effects[source]) {
                     if (source < greatest) {
                         return true;
                     }
@@ -1016,8 +1020,7 @@ public final class CallMigrator {
             int size = state.program.size - (state.program.endOf(site) - site) + 1;
             for (int position = 0; position < used; position++) {
                 int source = state.mappings.sourceAt(function, position);
-                boolean isSource = within(source, 0, POSITIONS - 1);
-                size += isSource ? starts[source + 1] - starts[source] : 1;
+                size += isSource(source) ? starts[source + 1] - starts[source] : 1;
             }
             return size;
         }
@@ -1028,7 +1031,7 @@ public final class CallMigrator {
             replacement.add(NEW_CALL, state.mappings.targetOf(function), used);
             for (int position = 0; position < used; position++) {
                 int source = state.mappings.sourceAt(function, position);
-                if (within(source, 0, POSITIONS - 1)) {
+                if (isSource(source)) {
                     replacement.addNodes(state.program, starts[source], starts[source + 1]);
                 } else {
                     replacement.add(NUMBER, state.mappings.constantAt(function, position), 0);

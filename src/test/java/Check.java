@@ -31,15 +31,18 @@ final class Check {
         return x.parse();
     }
 
+    /** A text that is no expression: the answer, and that nothing changes. */
     static void dueSyntaxError(CallMigrator x, String text, int position) {
-        long before = x.digest();
         type(x, text);
         long typed = x.digest();
         due("parse() of " + text, -10 - position, x.parse());
         due("digest() after the syntax error in " + text, typed, x.digest());
-        if (text.isEmpty()) {
-            due("digest() of an empty text", typed, before);
-        }
+    }
+
+    /** A call that was refused: the answer, and that nothing but its counter changed. */
+    static void dueRefusal(CallMigrator x, String call, int code, int answer, int counterBefore) {
+        due(call, code, answer);
+        due("the counter after " + call, counterBefore + 1, x.errorCount(code));
     }
 
     static void dueProgram(CallMigrator x, String want) {
