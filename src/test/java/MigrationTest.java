@@ -358,9 +358,9 @@ public final class MigrationTest {
         Check.due("migrate()", 3, x.migrate());
         Check.dueProgram(x, "A(8,A(8,A(8,x,9),9),9)");
         x.setNew(2, 3, 0);
-        Check.parse(x, "C(a(1),a(a(2)),3)");
+        Check.parse(x, "C(a(1),3,a(a(2)))");
         Check.due("migrate()", 3, x.migrate());
-        Check.dueProgram(x, "C(A(8,1,9),A(8,A(8,2,9),9),3)");
+        Check.dueProgram(x, "C(A(8,1,9),3,A(8,A(8,2,9),9))");
         Check.parse(x, "B(".repeat(26) + "a(x)" + ")".repeat(26));
         Check.due("migrate() to 30 nodes", 1, x.migrate());
         Check.due("nodes()", 30, x.nodes());
