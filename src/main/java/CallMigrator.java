@@ -174,7 +174,9 @@ public final class CallMigrator {
 
     public int migrate() {
         history.save(now);
-        return mover.moveSites(now);
+        Arrays.fill(now.outcomes, 0);
+        mover.treatFrom(now, 0, 0);
+        return now.outcomes[REPLACED];
     }
 
     public int left(int reason) {
@@ -573,14 +575,14 @@ public final class CallMigrator {
 
         /** Whether the function has a mapping and it is faithful. */
         boolean keepsMeaning(int oldFunction) {
+            int used = usedEntries(oldFunction);
             return mappings.targetOf(oldFunction) != NONE
-                && isWellFormed(oldFunction)
-                && keepsConstant(oldFunction)
-                && keepsCoefficients(oldFunction);
+                && isWellFormed(oldFunction, used)
+                && keepsConstant(oldFunction, used)
+                && keepsCoefficients(oldFunction, used);
         }
 
-        private boolean isWellFormed(int oldFunction) {
-            int used = usedEntries(oldFunction);
+        private boolean isWellFormed(int oldFunction, int used) {
             for (int position = 0; position < used; position++) {
                 if (mappings.sourceAt(oldFunction, position) >= olds.arityOf(oldFunction)) {
                     return false;
@@ -589,9 +591,8 @@ public final class CallMigrator {
             return true;
         }
 
-        private boolean keepsConstant(int oldFunction) {
+        private boolean keepsConstant(int oldFunction, int used) {
             int target = mappings.targetOf(oldFunction);
-            int used = usedEntries(oldFunction);
             int sum = news.term(target, CONSTANT_TERM);
             for (int position = 0; position < used; position++) {
                 if (mappings.sourceAt(oldFunction, position) == NONE) {
@@ -601,25 +602,20 @@ public final class CallMigrator {
             return sum % MODULUS == olds.term(oldFunction, CONSTANT_TERM);
         }
 
-        private boolean keepsCoefficients(int oldFunction) {
+        private boolean keepsCoefficients(int oldFunction, int used) {
+            int target = mappings.targetOf(oldFunction);
             for (int source = 0; source < olds.arityOf(oldFunction); source++) {
-                if (coefficientOf(oldFunction, source) != olds.term(oldFunction, source)) {
+                int sum = 0;
+                for (int position = 0; position < used; position++) {
+                    if (mappings.sourceAt(oldFunction, position) == source) {
+                        sum += news.term(target, position);
+                    }
+                }
+                if (sum % MODULUS != olds.term(oldFunction, source)) {
                     return false;
                 }
             }
             return true;
-        }
-
-        // The coefficient that the new call gives to an argument of the old call.
-        private int coefficientOf(int oldFunction, int source) {
-            int used = usedEntries(oldFunction);
-            int sum = 0;
-            for (int position = 0; position < used; position++) {
-                if (mappings.sourceAt(oldFunction, position) == source) {
-                    sum += news.term(mappings.targetOf(oldFunction), position);
-                }
-            }
-            return sum % MODULUS;
         }
 
         boolean canUseAdapter(int oldFunction) {
@@ -905,13 +901,6 @@ public final class CallMigrator {
         private final int[] starts = new int[MOST_OLD_ARITY + 1];
         private final boolean[] effects = new boolean[MOST_OLD_ARITY];
 
-        /** Answers how many sites were replaced. */
-        int moveSites(State state) {
-            Arrays.fill(state.outcomes, 0);
-            treatFrom(state, 0, 0);
-            return state.outcomes[REPLACED];
-        }
-
         /** Treats the sites of the expression at a node; answers the index behind it afterwards. */
         private int treatFrom(State state, int node, int depth) {
             Program program = state.program;
@@ -943,14 +932,15 @@ public final class CallMigrator {
                 return adaptOrReason(state, site, function);
             }
             findArguments(state, site);
-            int reason = effectReason(state, function, program.argumentCount[site]);
+            int used = state.usedEntries(function);
+            int reason = effectReason(state.mappings, function, used, program.argumentCount[site]);
             if (reason != REPLACED) {
                 return reason;
             }
-            if (sizeAfterReplacing(state, site, function) > MOST_NODES) {
+            if (sizeAfterReplacing(state, site, function, used) > MOST_NODES) {
                 return TOO_MANY_NODES;
             }
-            replaceSite(state, site, function);
+            replaceSite(state, site, function, used);
             return REPLACED;
         }
 
@@ -972,11 +962,11 @@ public final class CallMigrator {
             }
         }
 
-        private int effectReason(State state, int function, int arguments) {
+        private int effectReason(Mappings mappings, int function, int used, int arguments) {
             boolean isRepeated = false;
             boolean isLost = false;
             for (int source = 0; source < arguments && source < MOST_OLD_ARITY; source++) {
-                int uses = countUses(state, function, source);
+                int uses = countUses(mappings, function, used, source);
                 isRepeated = isRepeated || effects[source] && uses > 1;
                 isLost = isLost || effects[source] && uses == 0;
             }
@@ -986,25 +976,23 @@ public final class CallMigrator {
             if (isLost) {
                 return EFFECT_LOST;
             }
-            return reordersEffects(state, function) ? EFFECTS_REORDERED : REPLACED;
+            return reordersEffects(mappings, function, used) ? EFFECTS_REORDERED : REPLACED;
         }
 
-        private static int countUses(State state, int function, int source) {
-            int used = state.usedEntries(function);
+        private static int countUses(Mappings mappings, int function, int used, int source) {
             int count = 0;
             for (int position = 0; position < used; position++) {
-                if (state.mappings.sourceAt(function, position) == source) {
+                if (mappings.sourceAt(function, position) == source) {
                     count++;
                 }
             }
             return count;
         }
 
-        private boolean reordersEffects(State state, int function) {
-            int used = state.usedEntries(function);
+        private boolean reordersEffects(Mappings mappings, int function, int used) {
             int greatest = NONE;
             for (int position = 0; position < used; position++) {
-                int source = state.mappings.sourceAt(function, position);
+                int source = mappings.sourceAt(function, position);
                 if (isSource(source) && effects[source]) {
                     if (source < greatest) {
                         return true;
@@ -1015,8 +1003,7 @@ public final class CallMigrator {
             return false;
         }
 
-        private int sizeAfterReplacing(State state, int site, int function) {
-            int used = state.usedEntries(function);
+        private int sizeAfterReplacing(State state, int site, int function, int used) {
             int size = state.program.size - (state.program.endOf(site) - site) + 1;
             for (int position = 0; position < used; position++) {
                 int source = state.mappings.sourceAt(function, position);
@@ -1025,8 +1012,7 @@ public final class CallMigrator {
             return size;
         }
 
-        private void replaceSite(State state, int site, int function) {
-            int used = state.usedEntries(function);
+        private void replaceSite(State state, int site, int function, int used) {
             replacement.size = 0;
             replacement.add(NEW_CALL, state.mappings.targetOf(function), used);
             for (int position = 0; position < used; position++) {
