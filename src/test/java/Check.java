@@ -1,21 +1,35 @@
 /** What the tests share: comparing answers, typing a text and reading the program's text. */
 final class Check {
     private static int wrong = 0;
+    private static int made = 0;
+    private static String subject = "";
 
     private Check() {
     }
 
+    /** What the checks from here on are about; it is printed ahead of each wrong answer. */
+    static void about(String words) {
+        subject = words;
+    }
+
+    /** How many checks were made so far. */
+    static int made() {
+        return made;
+    }
+
     static void due(String call, long want, long got) {
+        made++;
         if (got != want) {
             wrong++;
-            System.out.println(call + " answered " + got + ", due is " + want);
+            System.out.println(subject + call + " answered " + got + ", due is " + want);
         }
     }
 
     static void dueText(String what, String want, String got) {
+        made++;
         if (!want.equals(got)) {
             wrong++;
-            System.out.println(what + " is " + got + ", due is " + want);
+            System.out.println(subject + what + " is " + got + ", due is " + want);
         }
     }
 
