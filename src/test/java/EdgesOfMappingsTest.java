@@ -38,6 +38,33 @@ public final class EdgesOfMappingsTest {
         }
     }
 
+    @Sentence(promise = 6, says = "a new function and a template")
+    static void theTemplatesOfNeighboursAreApart() {
+        CallMigrator x = new CallMigrator();
+        x.setNew(0, 4, 0);
+        for (int f = 1; f <= 3; f++) {
+            x.setOld(f, 3, 0);
+            x.map(f, 0);
+            x.setSource(f, 0, 2);
+            x.setSource(f, 3, 1);
+        }
+        x.unmap(2);
+        x.map(2, 0);
+        dueMoved(x, "b(7,8,9)", "A(9,8,9,8)");
+        dueMoved(x, "c(7,8,9)", "A(7,8,9,0)");
+        dueMoved(x, "d(7,8,9)", "A(9,8,9,8)");
+        // The last entry of one template has no say in the next one.
+        x.setOldTerm(4, -1, 3);
+        x.setNewTerm(4, -1, 3);
+        Check.due("map(4, 4)", 1, x.map(4, 4));
+        x.setSource(3, 3, 0);
+        Check.due("isFaithful(4)", 1, x.isFaithful(4));
+        x.setSource(3, 3, 2);
+        Check.due("isFaithful(4)", 1, x.isFaithful(4));
+        x.setConstant(3, 3, 5);
+        Check.due("isFaithful(4)", 1, x.isFaithful(4));
+    }
+
     @Sentence(promise = 6, says = "If the old function has no mapping yet, the entries of the template become "
         + "the sources 0, 1, 2 and the constant 0")
     static void mapGivesTheFirstTemplate() {
@@ -124,6 +151,10 @@ public final class EdgesOfMappingsTest {
         x.map(0, 5);
         Check.due("undo()", 1, x.undo());
         Check.due("unmap(0)", 1, x.unmap(0));
+        x.map(5, 1);
+        x.map(5, 2);
+        x.undo();
+        Check.due("unmap(5)", 1, x.unmap(5));
     }
 
     @Sentence(promise = 6, says = "The template has one entry for each of the positions 0 to 3; an entry is a "
@@ -440,6 +471,13 @@ public final class EdgesOfMappingsTest {
         x.setSource(0, 0, 0);
         x.undo();
         dueMoved(x, "a(x)", "A(44)");
+        x.setNew(5, 4, 0);
+        x.setOld(5, 3, 0);
+        x.map(5, 5);
+        x.setSource(5, 3, 1);
+        x.setSource(5, 3, 2);
+        x.undo();
+        dueMoved(x, "f(7,8,9)", "F(7,8,9,8)");
     }
 
     @Sentence(promise = 9, says = "Sets an entry of a template to a constant.")
@@ -463,8 +501,12 @@ public final class EdgesOfMappingsTest {
         Edges.refusedOutside(x, "setConstant(oldFunction, 0, 0)", 0, 5, f -> x.setConstant(f, 0, 0));
         Check.due("setConstant(0, 0, 3)", 1, x.setConstant(0, 0, 3));
         Check.due("setConstant(5, 0, 4)", 1, x.setConstant(5, 0, 4));
+        x.setNew(5, 4, 0);
+        x.setConstant(5, 1, 5);
+        x.setConstant(5, 2, 6);
+        Check.due("setConstant(5, 3, 7)", 1, x.setConstant(5, 3, 7));
         dueMoved(x, "a(x)", "A(3)");
-        dueMoved(x, "f(x)", "F(4)");
+        dueMoved(x, "f(x)", "F(4,5,6,7)");
     }
 
     @Sentence(promise = 9, says = "`position`: position of the entry, 0 to 3")
@@ -536,6 +578,13 @@ public final class EdgesOfMappingsTest {
         x.setConstant(0, 0, 45);
         x.undo();
         dueMoved(x, "a(x)", "A(44)");
+        x.setNew(5, 4, 0);
+        x.setOld(5, 3, 0);
+        x.map(5, 5);
+        x.setConstant(5, 3, 46);
+        x.setConstant(5, 3, 47);
+        x.undo();
+        dueMoved(x, "f(7,8,9)", "F(7,8,9,46)");
     }
 
     @Sentence(promise = 10, says = "Tells whether the mapping of an old function is faithful.")
@@ -695,6 +744,10 @@ public final class EdgesOfMappingsTest {
         Edges.refused(x, "adapterOf(1)", -3, () -> x.adapterOf(1));
         x.undo();
         Edges.refused(x, "adapterOf(0) after undo()", -3, () -> x.adapterOf(0));
+        dueMoved(x, "f(x)", "p(x)");
+        Check.due("adapterOf(5)", 0, x.adapterOf(5));
+        x.undo();
+        Edges.refused(x, "adapterOf(5) after undo()", -3, () -> x.adapterOf(5));
     }
 
     @Sentence(promise = 12, says = "at most 4 adapters, numbered 0 to 3 and written p to s")

@@ -128,6 +128,13 @@ public final class EdgesOfMigrationTest {
         x.setNew(0, 0, 0);
         dueMigrated(x, "a(1,F(),3)", 0, "0000100", "a(1,F(),3)");
         dueMigrated(x, "a(1,2,3)", 1, "0000000", "A()");
+        // The effects of one site's arguments are not those of the next site's.
+        CallMigrator z = withEffects(3, 3);
+        z.setNew(1, 3, 0);
+        z.map(1, 2);
+        z.setOld(3, 2, 0);
+        z.map(3, 3);
+        dueMigrated(z, "B(a(F(),F(),F()),b(x),d(1,2))", 3, "0000000", "B(A(F(),F(),F()),C(x),D(1))");
         // A lost effect goes ahead of the wrong order and of too many nodes.
         CallMigrator y = withEffects(3, 4);
         setSources(y, 2, 1, 2, 1);
@@ -296,28 +303,30 @@ public final class EdgesOfMigrationTest {
         x.setConstant(0, 3, 0);
         dueMigrated(x, "a(F(),F(),F())", 0, "0000010", "a(F(),F(),F())");
         dueMigrated(x, "a(F(),2,F())", 1, "0000000", "A(F(),F(),2,0)");
-        // An entry that is not used does not count.
+        // An entry that is not used does not count, nor does one of another function.
         x.setNew(0, 2, 0);
-        setSources(x, 1, 2, 0);
+        setSources(x, 1, 2, 0, 2);
         dueMigrated(x, "a(1,F(),F())", 1, "0000000", "A(F(),F())");
+        x.setOld(1, 3, 0);
+        x.setNew(1, 3, 0);
+        x.map(1, 1);
+        dueMigrated(x, "b(F(),F(),F())", 1, "0000000", "B(F(),F(),F())");
     }
 
     @Sentence(promise = 16, says = "(6) The program would have more than 30 nodes after replacing the call: the site is left "
         + "with reason 7.")
     static void moreThanThirtyNodes() {
+        String tooLarge = Edges.nested("B(", 28, "a(x)");
         CallMigrator x = withEffects(1, 2);
         x.setSource(0, 1, 0);
-        String fits = Edges.nested("B(", 26, "a(x)");
-        dueMigrated(x, fits, 1, "0000000", Edges.nested("B(", 26, "A(x,x)"));
-        Check.due("nodes()", 29, x.nodes());
-        fits = Edges.nested("B(", 27, "a(x)");
-        dueMigrated(x, fits, 1, "0000000", Edges.nested("B(", 27, "A(x,x)"));
+        dueMigrated(x, Edges.nested("B(", 27, "a(x)"), 1, "0000000", Edges.nested("B(", 27, "A(x,x)"));
         Check.due("nodes()", 30, x.nodes());
-        String tooLarge = Edges.nested("B(", 28, "a(x)");
         dueMigrated(x, tooLarge, 0, "0000001", tooLarge);
         // A constant is a node too.
-        x.setConstant(0, 1, 99);
-        dueMigrated(x, tooLarge, 0, "0000001", tooLarge);
+        CallMigrator y = withEffects(1, 2);
+        y.setConstant(0, 1, 99);
+        dueMigrated(y, Edges.nested("B(", 27, "a(x)"), 1, "0000000", Edges.nested("B(", 27, "A(x,99)"));
+        dueMigrated(y, tooLarge, 0, "0000001", tooLarge);
     }
 
     @Sentence(promise = 16, says = "a node is a number, a variable or a call")

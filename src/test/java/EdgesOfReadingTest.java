@@ -139,6 +139,14 @@ public final class EdgesOfReadingTest {
         Check.due("value(999, 999) is 395703", 703, x.value(999, 999));
         Check.due("value(0, 0)", 99, x.value(0, 0));
         Check.due("value(0, 999) is 99000", 0, x.value(0, 999));
+        // A coefficient without an argument does not reach for the argument of the call around it.
+        x.setOldTerm(1, 0, 2);
+        x.setOldTerm(1, 1, 50);
+        x.setNew(2, 2, 0);
+        x.setNewTerm(2, 0, 1);
+        x.setNewTerm(2, 1, 10);
+        Check.parse(x, "C(b(3),7)");
+        Check.due("value(0, 0) of C(b(3),7)", 76, x.value(0, 0));
         // Calls within calls: each is taken modulo 1000 before it is an argument.
         Check.parse(x, "A(A(x,x,x,x),0,0,0)");
         Check.due("value(999, 0)", (99 + 99 * 703) % 1000, x.value(999, 0));

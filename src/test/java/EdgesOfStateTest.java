@@ -142,6 +142,44 @@ public final class EdgesOfStateTest {
     }
 
     @Sentence(promise = 22, says = "the program and the reasons of the latest migration")
+    static void theReasonsComeBack() {
+        for (int reason = 1; reason <= 7; reason++) {
+            CallMigrator x = new CallMigrator();
+            leaveFor(x, reason);
+            String want = "0".repeat(reason - 1) + "1" + "0".repeat(7 - reason);
+            Check.dueLeft(x, want);
+            Check.parse(x, "y");
+            x.migrate();
+            Check.dueLeft(x, "0000000");
+            x.undo();
+            Check.dueLeft(x, want);
+            Check.dueProgram(x, "y");
+        }
+    }
+
+    /** Leaves one site, of a with two arguments, for a reason. */
+    private static void leaveFor(CallMigrator x, int reason) {
+        x.setOld(0, 2, 0);
+        x.setNew(0, 3, 0);
+        x.setNew(5, 0, reason == 7 ? 0 : 1);
+        if (reason != 2) {
+            x.map(0, 0);
+            x.setConstant(0, 2, 0);
+        }
+        switch (reason) {
+            case 3: x.setNewTerm(0, -1, 1); break;
+            case 4: x.setSource(0, 2, 1); break;
+            case 5: x.setConstant(0, 1, 1); break;
+            case 6: x.setSource(0, 0, 1); x.setSource(0, 1, 0); break;
+            case 7: x.setSource(0, 2, 0); break;
+            default: break;
+        }
+        Check.parse(x, "a(" + Edges.nested("B(", 14, "F()") + ",F())");
+        x.setOld(0, reason == 1 ? 1 : 2, 0);
+        x.migrate();
+    }
+
+    @Sentence(promise = 22, says = "The saved state contains the functions")
     static void undoLeavesTheTextAndTheCounters() {
         CallMigrator x = new CallMigrator();
         x.append('x');
@@ -228,8 +266,8 @@ public final class EdgesOfStateTest {
         x.map(1, 1);
         x.setConstant(1, 1, 77);
         Check.parse(x, "b(c(x))");
-        while (x.append('y') > 0) {
-            continue;
+        for (int length = 8; length <= 120; length++) {
+            x.append('y');
         }
         return x;
     }

@@ -203,10 +203,11 @@ public final class EdgesOfTextTest {
         CallMigrator x = new CallMigrator();
         x.setOld(0, 2, 0);
         String whole = "a(b(12),c(y))";
-        for (int length = 0; length < whole.length(); length++) {
+        Check.due("parse() of the whole text", 5, Check.parse(x, whole));
+        // Each text is typed where a longer one stood, whose next byte must not be read on.
+        for (int length = whole.length() - 1; length >= 0; length--) {
             Check.dueSyntaxError(x, whole.substring(0, length), length);
         }
-        Check.due("parse() of the whole text", 5, Check.parse(x, whole));
         Check.dueSyntaxError(x, "b(".repeat(30), 60);
     }
 
