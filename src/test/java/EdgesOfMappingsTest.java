@@ -228,6 +228,7 @@ public final class EdgesOfMappingsTest {
         }
         Check.due("isFaithful(0), 0 is 0", 1, x.isFaithful(0));
         x.setNewTerm(0, 0, 10);
+        Check.due("setConstant(0, 0, 10), 100 is not 0", 0, x.setConstant(0, 0, 10));
         Check.due("setConstant(0, 0, 99), 990 is not 0", 0, x.setConstant(0, 0, 99));
         x.setNewTerm(0, -1, 9);
         Check.due("isFaithful(0), 999 is not 0", 0, x.isFaithful(0));
